@@ -23,6 +23,8 @@ public final class WhiteRoads {
     /** WHAT WOULD BE goes on for so many STEPS. */
     private static final int AHEAD = 72;
     private static final int STEPS_IN_HOUR = 6;
+    /** A STEP beyond any that can be. */
+    private static final int NEVER = 1000000;
     private static final int MINUTES_IN_STEP = 10;
     private static final int MOST_MINUTES = 720;
 
@@ -441,11 +443,11 @@ public final class WhiteRoads {
             return Math.max(0, Math.min(step / STEPS_IN_HOUR, hourCount - 1));
         }
 
-        /** The STEP (the first being 0) from which on nothing falls as SNOW. */
+        /** The STEP (the first being 0) from which on nothing falls as SNOW, or NEVER. */
         int snowlessFrom() {
             for (int hour = hourCount - 1; hour >= 0; hour--) {
                 if (falls[hour] > falls[hour] * wets[hour] / 10) {
-                    return hour == hourCount - 1 ? Integer.MAX_VALUE : (hour + 1) * STEPS_IN_HOUR;
+                    return hour == hourCount - 1 ? NEVER : (hour + 1) * STEPS_IN_HOUR;
                 }
             }
             return 0;

@@ -41,7 +41,12 @@ public final class FuzzTest {
 
     private String run() throws Exception {
         wild = random.nextInt(4) == 0;
-        tell(random.nextInt(3) == 0 ? mutated(text()) : text());
+        if (random.nextInt(3) == 0) {
+            tell(mutated(text()));
+        }
+        if (yards == 0) {
+            tell(text());
+        }
         int most = 20 + random.nextInt(120);
         while (calls < most && last == null) {
             step();
@@ -108,16 +113,18 @@ public final class FuzzTest {
     private String text() {
         StringBuilder s = new StringBuilder();
         int count = below(10) == 0 ? 0 : between(1, 8);
-        // cold or mild lands, so that both what lies and what doesn't are met with
-        int mild = between(-60, 60);
-        int heavy = below(3) == 0 ? 99 : between(1, 12);
+        // lands at the edge of lying (a short, slight fall near 0 degrees), and others, cold or mild
+        boolean edge = below(3) != 0;
+        int mild = edge ? between(-6, 12) : between(-60, 60);
+        int spread = edge ? 12 : 80;
+        int heavy = edge ? between(3, 6) : below(2) == 0 ? 99 : between(2, 9);
         for (int y = 0; y < count; y++) {
             s.append("yard").append(blank()).append(name(y)).append(blank()).append(SORTS[below(4)]).append(blank());
             s.append("slope").append(blank()).append(below(4) == 0 ? 99 : below(60)).append(blank());
-            s.append("traffic").append(blank()).append(below(3) == 0 ? 0 : below(100)).append(blank()).append("warm");
+            s.append("traffic").append(blank()).append(edge || below(2) == 0 ? below(20) : below(100)).append(blank()).append("warm");
             int layers = between(1, 5);
             for (int i = 0; i < layers; i++) {
-                s.append(' ').append(between(-80, 80) + mild);
+                s.append(' ').append(between(-spread, spread) + mild);
             }
             s.append(";");
         }
@@ -133,12 +140,15 @@ public final class FuzzTest {
         }
         int hours = between(0, below(2) == 0 ? 3 : 12);
         for (int i = 0; i < hours; i++) {
-            s.append("hour fall ").append(below(3) == 0 ? 0 : below(heavy)).append(" temp ");
-            s.append(between(-40, 40) + mild / 2).append(" wet ").append(below(2) == 0 ? 0 : between(0, 10)).append(";");
+            boolean dry = edge ? i != 0 && i != hours / 2 : below(3) == 0;
+            s.append("hour fall ").append(dry ? 0 : edge ? between(2, heavy) : below(heavy)).append(" temp ");
+            s.append(between(-spread / 2, spread / 2) + mild / 2).append(" wet ");
+            s.append(below(2) == 0 ? 0 : between(0, 10)).append(";");
         }
         int slips = between(0, 7);
         for (int i = 0; i < slips; i++) {
-            s.append("slip ").append(i * 14 - 50 + below(14)).append(" weight ").append(between(1, below(2) == 0 ? 3 : 99)).append(";");
+            int wide = edge ? 3 : 14;
+            s.append("slip ").append(i * wide - wide * 7 / 2 + below(wide)).append(" weight ").append(between(1, below(2) == 0 ? 3 : 99)).append(";");
         }
         if (below(4) != 0) {
             s.append("call ").append(below(30)).append(";");
@@ -163,6 +173,9 @@ public final class FuzzTest {
         String[] bits = {"$", "9", "0", "-", ";", " ", "a", "yard", "call 1;", "slip 3 weight 2;", "way a lane takes 7;",
             "depot a;", "warm", "12345", "abcdefghi", "201", "\t", "A", "hour fall 1 temp 1 wet 1;", "\n", "5x", "\u00e9",
             "yard q grass slope 1 traffic 1 warm 1;", "roof", "61", "11", "-0"};
+        if (below(2) == 0) {
+            return swapped(s);
+        }
         StringBuilder t = new StringBuilder(s);
         int changes = between(1, 3);
         for (int i = 0; i < changes; i++) {
@@ -178,12 +191,27 @@ public final class FuzzTest {
         return t.toString();
     }
 
+    /** With some word, number or line of it at another one's place. */
+    private String swapped(String s) {
+        String[] parts = s.split(below(2) == 0 ? "(?<=;)" : "(?=[ ;])");
+        int changes = between(1, 2);
+        for (int i = 0; i < changes; i++) {
+            String other = parts[below(parts.length)];
+            parts[below(parts.length)] = below(4) == 0 ? other + other : below(4) == 0 ? " 200" : other;
+        }
+        return String.join("", parts);
+    }
+
     private int around(int least, int most) {
         if (!wild || below(3) != 0) {
             return below(12) == 0 ? (below(2) == 0 ? least : most) : between(least, Math.max(least, most));
         }
         int[] odd = {least - 1, most + 1, Integer.MIN_VALUE, Integer.MAX_VALUE, -1, least, most};
         return odd[below(odd.length)];
+    }
+
+    private int aShift() {
+        return below(2) == 0 ? between(-8, 8) : around(-50, 50);
     }
 
     private int aYard() {
@@ -202,7 +230,7 @@ public final class FuzzTest {
                 }
             }
             case 1, 2 -> call("run", around(0, below(4) == 0 ? 144 : 12));
-            case 3 -> call("shift", around(-50, 50));
+            case 3 -> call("shift", aShift());
             case 4, 5 -> call("spread", aYard(), around(1, 99));
             case 6, 7 -> {
                 int yard = aYard();
@@ -216,10 +244,10 @@ public final class FuzzTest {
                     call("warm", yard, layer);
                 }
             }
-            case 9, 10 -> call("when", aYard(), around(-50, 50));
-            case 11 -> call("deep", aYard(), around(-50, 50), around(0, 72));
-            case 12 -> call("least", aYard(), around(-50, 50));
-            case 13 -> call("latest", aYard(), around(-50, 50), around(0, 99));
+            case 9, 10 -> call("when", aYard(), aShift());
+            case 11 -> call("deep", aYard(), aShift(), around(0, 72));
+            case 12 -> call("least", aYard(), aShift());
+            case 13 -> call("latest", aYard(), aShift(), around(0, 99));
             case 14 -> {
                 int yard = aYard();
                 int k = aTime();
@@ -276,8 +304,9 @@ public final class FuzzTest {
         int yard = aYard();
         int layer = around(0, below(3));
         int step = around(0, 72);
-        int warmth = around(-60, 60);
-        call("read", yard, layer, step, warmth, around(0, 99));
+        int slips = plain.about(3);
+        int warmth = slips == 0 || below(4) == 0 ? around(-60, 60) : plain.glimpse(yard, layer, step, below(slips));
+        call("read", yard, layer, step, warmth, below(2) == 0 ? between(0, 3) : around(0, 99));
         call("left", plain.about(7));
     }
 }

@@ -16,6 +16,7 @@ final class Plain {
         "fall", "temp", "wet", "slip", "weight", "call", "harm", "depot", "store", "grass", "road", "bridge", "roof");
 
     /** A FAULT, thrown where it is met. */
+    @SuppressWarnings("serial")
     private static final class Fault extends RuntimeException {
         final int number;
         final int place;
@@ -702,6 +703,12 @@ final class Plain {
             step(country.yards.get(yard), s, i, by);
         }
         return s.warm;
+    }
+
+    /** What a GLASS would show by a SLIP; 0 if there is none such. */
+    int glimpse(int yard, int layer, int step, int slip) {
+        boolean is = isLayer(yard, layer) && in(step, 0, 72);
+        return is ? warmthThen(yard, step, country.slips.get(slip).by)[layer] : 0;
     }
 
     int left(int k) {
