@@ -23,8 +23,8 @@ public final class WhiteRoads {
     /** WHAT WOULD BE goes on for so many STEPS. */
     private static final int AHEAD = 72;
     private static final int STEPS_IN_HOUR = 6;
-    /** A STEP beyond any that can be. */
-    private static final int NEVER = 1000000;
+    /** Above any number that is counted or summed up here. */
+    private static final int BEYOND = 1000000000;
     private static final int MINUTES_IN_STEP = 10;
     private static final int MOST_MINUTES = 720;
 
@@ -39,7 +39,7 @@ public final class WhiteRoads {
     private Land draft = new Land();
     private final Parser parser = new Parser(draft);
     private final Day day = new Day(country);
-    private final Outlook outlook = new Outlook(country);
+    private final Outlook outlook = new Outlook();
     private final Planner planner = new Planner();
     private final Gritter gritter = new Gritter();
     private final Car car = new Car();
@@ -149,25 +149,22 @@ public final class WhiteRoads {
         if (!isYard(yard) || !isShift(shift)) {
             return NONE;
         }
-        outlook.follow(day, yard, shift);
-        return outlook.firstWhite;
+        return outlook.firstWhite(day, yard, shift, 0, 0);
     }
 
     public int deep(int yard, int shift, int step) {
         if (!isYard(yard) || !isShift(shift) || step < 0 || step > AHEAD) {
             return NONE;
         }
-        outlook.follow(day, yard, shift);
-        return outlook.snowBehind(step);
+        return outlook.snowBehind(day, yard, shift, step);
     }
 
     public int least(int yard, int shift) {
         if (!isYard(yard) || !isShift(shift)) {
             return NONE;
         }
-        outlook.follow(day, yard, shift);
         for (int salt = 0; salt <= MOST_SALT; salt++) {
-            if (!outlook.isWhiteWith(salt, 0)) {
+            if (outlook.firstWhite(day, yard, shift, salt, 0) == NONE) {
                 return salt;
             }
         }
@@ -178,9 +175,8 @@ public final class WhiteRoads {
         if (!isYard(yard) || !isShift(shift) || !isSalt(salt)) {
             return NONE;
         }
-        outlook.follow(day, yard, shift);
-        for (int step = AHEAD - 1; step >= 0; step--) {
-            if (!outlook.isWhiteWith(salt, step)) {
+        for (int step = outlook.lastInTime(day, yard, shift); step >= 0; step--) {
+            if (outlook.firstWhite(day, yard, shift, salt, step) == NONE) {
                 return step;
             }
         }
@@ -194,9 +190,8 @@ public final class WhiteRoads {
         }
         int white = 0;
         for (int i = 0; i < country.slipCount; i++) {
-            if ((slips >> i & 1) != 0) {
-                outlook.follow(day, yard, country.slips[i]);
-                white += outlook.firstWhite == NONE ? 0 : country.weights[i];
+            if ((slips >> i & 1) != 0 && outlook.firstWhite(day, yard, country.slips[i], 0, 0) != NONE) {
+                white += country.weights[i];
             }
         }
         return lowest(white, country.weightOf(slips), part);
@@ -209,9 +204,9 @@ public final class WhiteRoads {
         }
         planner.weigh(day, outlook, yards, salt, slips);
         if (what == 0) {
-            return planner.bestStep();
+            return planner.bestStep;
         }
-        return lowest(planner.bestCost(), country.weightOf(slips), what - 1);
+        return lowest(planner.bestCost, country.weightOf(slips), what - 1);
     }
 
     public int round(int yards, int salt, int what) {
@@ -443,11 +438,11 @@ public final class WhiteRoads {
             return Math.max(0, Math.min(step / STEPS_IN_HOUR, hourCount - 1));
         }
 
-        /** The STEP (the first being 0) from which on nothing falls as SNOW, or NEVER. */
+        /** The STEP (the first being 0) from which on nothing falls as SNOW. */
         int snowlessFrom() {
             for (int hour = hourCount - 1; hour >= 0; hour--) {
                 if (falls[hour] > falls[hour] * wets[hour] / 10) {
-                    return hour == hourCount - 1 ? NEVER : (hour + 1) * STEPS_IN_HOUR;
+                    return hour == hourCount - 1 ? BEYOND : (hour + 1) * STEPS_IN_HOUR;
                 }
             }
             return 0;
@@ -843,9 +838,6 @@ public final class WhiteRoads {
     private static final class Ground {
         /** How many numbers it is kept in. */
         static final int ROW = MOST_LAYERS + 4;
-        private static final int SNOW_IN_ROW = MOST_LAYERS + 1;
-        private static final int ICE_IN_ROW = MOST_LAYERS + 2;
-
         private static final int LOWEST_POINT = -80;
         /** By sort: grass, road, bridge, roof. */
         private static final int[] TOP_PARTS = {2, 4, 4, 3};
@@ -865,19 +857,27 @@ public final class WhiteRoads {
             salt = 0;
         }
 
+        void copy(Ground other) {
+            System.arraycopy(other.warmth, 0, warmth, 0, MOST_LAYERS);
+            water = other.water;
+            snow = other.snow;
+            ice = other.ice;
+            salt = other.salt;
+        }
+
         void keepIn(int[] row, int at) {
             System.arraycopy(warmth, 0, row, at, MOST_LAYERS);
             row[at + MOST_LAYERS] = water;
-            row[at + SNOW_IN_ROW] = snow;
-            row[at + ICE_IN_ROW] = ice;
+            row[at + MOST_LAYERS + 1] = snow;
+            row[at + MOST_LAYERS + 2] = ice;
             row[at + MOST_LAYERS + 3] = salt;
         }
 
         void takeFrom(int[] row, int at) {
             System.arraycopy(row, at, warmth, 0, MOST_LAYERS);
             water = row[at + MOST_LAYERS];
-            snow = row[at + SNOW_IN_ROW];
-            ice = row[at + ICE_IN_ROW];
+            snow = row[at + MOST_LAYERS + 1];
+            ice = row[at + MOST_LAYERS + 2];
             salt = row[at + MOST_LAYERS + 3];
         }
 
@@ -887,14 +887,6 @@ public final class WhiteRoads {
 
         boolean isBlocked(Told told) {
             return told.slope * (snow + 2 * ice) >= 1000;
-        }
-
-        static int snowIn(int[] row, int at) {
-            return row[at + SNOW_IN_ROW];
-        }
-
-        static int slipperyIn(int[] row, int at) {
-            return row[at + SNOW_IN_ROW] + 2 * row[at + ICE_IN_ROW];
         }
 
         void goStep(Told told, Land land, int step, int shift) {
@@ -963,8 +955,6 @@ public final class WhiteRoads {
         int steps = 0;
         int slipped = 0;
         int stored;
-        /** How often what the YARDS have has changed: what was found out before holds no longer. */
-        int changes = 0;
 
         Day(Land told) {
             land = told;
@@ -982,7 +972,6 @@ public final class WhiteRoads {
             for (int i = 0; i < told.yardCount; i++) {
                 grounds[i].begin(told.yards[i]);
             }
-            changes++;
         }
 
         void goStep() {
@@ -990,13 +979,11 @@ public final class WhiteRoads {
                 grounds[i].goStep(land.yards[i], land, steps, slipped);
             }
             steps++;
-            changes++;
         }
 
         void strew(int yard, int salt) {
             grounds[yard].salt += salt;
             stored -= salt;
-            changes++;
         }
 
         void keepIn(int[] row) {
@@ -1015,140 +1002,101 @@ public final class WhiteRoads {
             steps = row[ROW - 3];
             slipped = row[ROW - 2];
             stored = row[ROW - 1];
-            changes++;
         }
     }
 
-    /** WHAT WOULD BE of one YARD: the STEPS from now on, each kept, so that SALT can be tried behind any. */
+    /** WHAT WOULD BE of one YARD. */
     private static final class Outlook {
-        private final int[] trail = new int[(AHEAD + 1) * Ground.ROW];
         private final Ground ground = new Ground();
-        private Land land;
-        private Told told;
-        private int begun = 0;
-        private int shiftBy = 0;
-        private int snowlessFrom = 0;
-        /** The first STEP (1 .. 72) behind which it is WHITE, or NONE. */
-        int firstWhite = NONE;
 
-        Outlook(Land first) {
-            land = first;
-            told = first.yards[0];
-        }
-
-        void follow(Day day, int yard, int shift) {
-            land = day.land;
-            told = land.yards[yard];
-            begun = day.steps;
-            shiftBy = shift;
-            snowlessFrom = land.snowlessFrom();
-            firstWhite = NONE;
-            day.grounds[yard].keepIn(trail, 0);
-            ground.takeFrom(trail, 0);
-            for (int step = 1; step <= AHEAD; step++) {
-                ground.goStep(told, land, begun + step - 1, shiftBy);
-                ground.keepIn(trail, step * Ground.ROW);
-                if (firstWhite == NONE && ground.isWhite()) {
-                    firstWhite = step;
+        /** The first STEP (1 .. 72) behind which it is WHITE, if so much SALT is spread behind a STEP (0 .. 71). */
+        int firstWhite(Day day, int yard, int shift, int salt, int spreadBehind) {
+            Land land = day.land;
+            int snowless = land.snowlessFrom();
+            ground.copy(day.grounds[yard]);
+            for (int i = 0; i < AHEAD; i++) {
+                if (i == spreadBehind) {
+                    ground.salt += salt;
                 }
-            }
-        }
-
-        int snowBehind(int step) {
-            return Ground.snowIn(trail, step * Ground.ROW);
-        }
-
-        boolean isBlockedBehind(int step) {
-            return told.slope * Ground.slipperyIn(trail, step * Ground.ROW) >= 1000;
-        }
-
-        /** Whether it is WHITE behind some STEP, if so much SALT is spread behind a STEP (0 .. 71). */
-        boolean isWhiteWith(int salt, int step) {
-            if (firstWhite != NONE && firstWhite <= step) {
-                return true;
-            }
-            if (salt == 0) {
-                return firstWhite != NONE;
-            }
-            ground.takeFrom(trail, step * Ground.ROW);
-            ground.salt += salt;
-            for (int i = step; i < AHEAD; i++) {
-                ground.goStep(told, land, begun + i, shiftBy);
+                ground.goStep(land.yards[yard], land, day.steps + i, shift);
                 if (ground.isWhite()) {
-                    return true;
+                    return i + 1;
                 }
                 // SNOW grows by what falls alone: what isn't WHITE now won't be without more of it
-                if (begun + i + 1 >= snowlessFrom) {
-                    return false;
+                if (day.steps + i + 1 >= snowless) {
+                    return NONE;
                 }
             }
-            return false;
+            return NONE;
+        }
+
+        /** The last STEP (0 .. 71) behind which it has not been WHITE yet without SALT. */
+        int lastInTime(Day day, int yard, int shift) {
+            int white = firstWhite(day, yard, shift, 0, 0);
+            return (white == NONE ? AHEAD : white) - 1;
+        }
+
+        int snowBehind(Day day, int yard, int shift, int step) {
+            ground.copy(day.grounds[yard]);
+            for (int i = 0; i < step; i++) {
+                ground.goStep(day.land.yards[yard], day.land, day.steps + i, shift);
+            }
+            return ground.snow;
+        }
+
+        /** Adds a YARD's bit to the row of each STEP (0 .. 72) behind which it is BLOCKED by SHIFT 0. */
+        void markBlocked(Day day, int yard, int[] blocked) {
+            Told told = day.land.yards[yard];
+            ground.copy(day.grounds[yard]);
+            for (int i = 0; i <= AHEAD && i < blocked.length; i++) {
+                if (ground.isBlocked(told)) {
+                    blocked[i] |= 1 << yard;
+                }
+                ground.goStep(told, day.land, day.steps + i, 0);
+            }
         }
     }
 
-    /** PLAN: what it costs to call behind each STEP, or not to. */
+    /** PLAN: what it costs to call behind each STEP, or not to, by all SLIPS together. */
     private static final class Planner {
         private static final int LAST_CALL = 24;
-        private static final int NOT_TO_CALL = LAST_CALL + 1;
 
-        private final int[] costs = new int[NOT_TO_CALL + 1];
-        private int best = NOT_TO_CALL;
-        /** What was weighed last, so that its three answers are worked out once. */
-        private int lastChanges = NONE;
-        private int lastYards = NONE;
-        private int lastSalt = NONE;
-        private int lastSlips = NONE;
+        private int yardBits = 0;
+        private int slipBits = 0;
+        /** NONE: not to call. */
+        int bestStep = NONE;
+        int bestCost = 0;
 
-        void weigh(Day day, Outlook outlook, int yards, int salt, int slipBits) {
-            boolean sameSet = yards == lastYards && salt == lastSalt && slipBits == lastSlips;
-            if (sameSet && day.changes == lastChanges) {
-                return;
-            }
-            lastChanges = day.changes;
-            lastYards = yards;
-            lastSalt = salt;
-            lastSlips = slipBits;
-            addCosts(day, outlook);
-            best = 0;
-            for (int i = 1; i <= NOT_TO_CALL; i++) {
-                if (costs[i] < costs[best]) {
-                    best = i;
+        void weigh(Day day, Outlook outlook, int yards, int salt, int slips) {
+            yardBits = yards;
+            slipBits = slips;
+            int fee = day.land.callCost * day.land.weightOf(slips);
+            bestStep = NONE;
+            bestCost = sumHarm(day, outlook, 0, 0, BEYOND);
+            for (int step = 0; step <= LAST_CALL; step++) {
+                // of like ones the first STEP, not to call last
+                int most = bestStep == NONE ? bestCost : bestCost - 1;
+                int cost = fee + sumHarm(day, outlook, salt, step, most - fee);
+                if (cost <= most) {
+                    bestStep = step;
+                    bestCost = cost;
                 }
             }
         }
 
-        private void addCosts(Day day, Outlook outlook) {
+        /** Harm if so much SALT is spread behind a STEP; as soon as it is above the most, that will do. */
+        private int sumHarm(Day day, Outlook outlook, int salt, int step, int most) {
             Land land = day.land;
-            Arrays.fill(costs, land.callCost * land.weightOf(lastSlips));
-            costs[NOT_TO_CALL] = 0;
+            int sum = 0;
             for (int i = 0; i < land.slipCount; i++) {
-                for (int yard = 0; yard < land.yardCount; yard++) {
-                    if ((lastSlips >> i & 1) != 0 && (lastYards >> yard & 1) != 0) {
-                        outlook.follow(day, yard, land.slips[i]);
-                        addHarm(outlook, land.harmCost * land.weights[i]);
+                for (int yard = 0; yard < land.yardCount && sum <= most; yard++) {
+                    boolean counts = (slipBits >> i & 1) != 0 && (yardBits >> yard & 1) != 0;
+                    if (counts && outlook.firstWhite(day, yard, land.slips[i], salt, step) != NONE) {
+                        sum += land.harmCost * land.weights[i];
                     }
                 }
             }
-        }
-
-        private void addHarm(Outlook outlook, int harm) {
-            for (int step = 0; step <= LAST_CALL; step++) {
-                if (outlook.isWhiteWith(lastSalt, step)) {
-                    costs[step] += harm;
-                }
-            }
-            if (outlook.firstWhite != NONE) {
-                costs[NOT_TO_CALL] += harm;
-            }
-        }
-
-        int bestStep() {
-            return best == NOT_TO_CALL ? NONE : best;
-        }
-
-        /** By all SLIPS together, each as often as its weight. */
-        int bestCost() {
-            return costs[best];
+            return sum;
         }
     }
 
@@ -1159,7 +1107,8 @@ public final class WhiteRoads {
         private static final int FAR = 1000000;
 
         private final int[] minutes = new int[MOST_YARDS * MOST_YARDS];
-        private final boolean[] white = new boolean[MOST_YARDS * AHEAD];
+        /** By YARD and the STEP behind which it is salted: 0 not looked at yet, 1 never WHITE, 2 WHITE. */
+        private final byte[] found = new byte[MOST_YARDS * AHEAD];
         private final int[] order = new int[MOST_STOPS];
         final int[] best = new int[MOST_STOPS];
         /** How many YARDS of an order lie there. */
@@ -1182,11 +1131,11 @@ public final class WhiteRoads {
             if (!lineUp(land, yards)) {
                 return false;
             }
-            foresee(day, outlook, stops, salt);
+            Arrays.fill(found, (byte) 0);
             fewestWhite = stops + 1;
             fewestMinutes = 0;
             for (int i = 0; i < MOST_ORDERS; i++) {
-                tryOrder(land.depot, stops);
+                tryOrder(day, outlook, stops, salt);
                 if (!nextOrder(stops)) {
                     break;
                 }
@@ -1230,43 +1179,41 @@ public final class WhiteRoads {
             return true;
         }
 
-        /** Which YARD is WHITE by the STEP at which it is salted, for STEPS at which the gritter can be there. */
-        private void foresee(Day day, Outlook outlook, int stops, int salt) {
-            int depot = day.land.depot;
-            int farthest = 0;
-            for (int i = 0; i < stops; i++) {
-                farthest = Math.max(farthest, minutes[depot * MOST_YARDS + order[i]]);
-                for (int j = 0; j < stops; j++) {
-                    farthest = Math.max(farthest, minutes[order[i] * MOST_YARDS + order[j]]);
-                }
-            }
-            int last = stepAt(farthest * stops);
-            for (int i = 0; i < stops; i++) {
-                outlook.follow(day, order[i], 0);
-                for (int step = stepAt(minutes[depot * MOST_YARDS + order[i]]); step <= last; step++) {
-                    white[order[i] * AHEAD + step] = outlook.isWhiteWith(salt, step);
-                }
-            }
-        }
-
-        private static int stepAt(int minute) {
-            return Math.min(AHEAD - 1, minute / MINUTES_IN_STEP);
-        }
-
-        private void tryOrder(int depot, int stops) {
-            int at = depot;
+        private void tryOrder(Day day, Outlook outlook, int stops, int salt) {
             int minute = 0;
-            int whites = 0;
-            for (int i = 0; i < stops && whites <= fewestWhite; i++) {
-                minute += minutes[at * MOST_YARDS + order[i]];
-                at = order[i];
-                whites += white[at * AHEAD + stepAt(minute)] ? 1 : 0;
+            for (int i = 0; i < stops; i++) {
+                minute += minutesTo(i, day.land.depot);
             }
-            if (whites < fewestWhite || whites == fewestWhite && minute < fewestMinutes) {
-                fewestWhite = whites;
+            if (fewestWhite == 0 && minute >= fewestMinutes) {
+                return;
+            }
+            int white = countWhite(day, outlook, stops, salt);
+            if (white < fewestWhite || white == fewestWhite && minute < fewestMinutes) {
+                fewestWhite = white;
                 fewestMinutes = minute;
                 System.arraycopy(order, 0, best, 0, stops);
             }
+        }
+
+        /** From the YARD before, or the depot, to the i-th of the order. */
+        private int minutesTo(int i, int depot) {
+            int from = i == 0 ? depot : order[i - 1];
+            return minutes[from * MOST_YARDS + order[i]];
+        }
+
+        private int countWhite(Day day, Outlook outlook, int stops, int salt) {
+            int minute = 0;
+            int white = 0;
+            for (int i = 0; i < stops; i++) {
+                minute += minutesTo(i, day.land.depot);
+                int step = Math.min(AHEAD - 1, minute / MINUTES_IN_STEP);
+                int at = order[i] * AHEAD + step;
+                if (found[at] == 0) {
+                    found[at] = (byte) (outlook.firstWhite(day, order[i], 0, salt, step) == NONE ? 1 : 2);
+                }
+                white += found[at] - 1;
+            }
+            return white;
         }
 
         /** The next order by YARDS' numbers; false behind the last one. */
@@ -1310,12 +1257,7 @@ public final class WhiteRoads {
         void lookOut(Day day, Outlook outlook) {
             Arrays.fill(blocked, 0);
             for (int yard = 0; yard < day.land.yardCount; yard++) {
-                outlook.follow(day, yard, 0);
-                for (int step = 0; step <= AHEAD; step++) {
-                    if (outlook.isBlockedBehind(step)) {
-                        blocked[step] |= 1 << yard;
-                    }
-                }
+                outlook.markBlocked(day, yard, blocked);
             }
         }
 
