@@ -18,6 +18,7 @@ public final class GlassTest {
         tellsOfThoseLeft();
         wrongTells();
         images();
+        imageOfEight();
         about();
         CHECK.finish("GlassTest");
     }
@@ -192,7 +193,7 @@ public final class GlassTest {
     }
 
     private static void images() {
-        WhiteRoads x = Check.told("yard a road slope 0 traffic 0 warm -9 50;hour fall 3 temp -30 wet 3;hour fall 0 temp 90 wet 0;depot a;" + SLIPS);
+        WhiteRoads x = Check.told("yard a road slope 0 traffic 0 warm -9 -50;hour fall 3 temp -30 wet 4;hour fall 0 temp 90 wet 0;depot a;" + SLIPS);
         due("back(0) of nothing", x.back(0), NONE);
         due("image(0)", x.image(0), 0);
         x.shift(9);
@@ -200,6 +201,7 @@ public final class GlassTest {
         x.spread(0, 50);
         due("image(2)", x.image(2), 4);
         int[] has = has(x);
+        due("there is ICE", has[2] > 0, true);
         x.shift(-3);
         x.run(30);
         x.spread(0, 90);
@@ -237,6 +239,34 @@ public final class GlassTest {
         due("back(-1)", x.back(-1), NONE);
         due("back(least)", x.back(Integer.MIN_VALUE), NONE);
         due("all stays", x.about(4), 7);
+    }
+
+    /** With as many YARDS as can be, each with SALT of its own. */
+    private static void imageOfEight() {
+        StringBuilder text = new StringBuilder();
+        for (int i = 0; i < 8; i++) {
+            text.append("yard ").append((char) ('a' + i)).append(" road slope 0 traffic 0 warm 1 2 3 4 ").append(i).append(";");
+        }
+        WhiteRoads x = Check.told(text.toString());
+        for (int i = 0; i < 8; i++) {
+            x.spread(i, 20 + i);
+        }
+        for (int box = 0; box < 3; box++) {
+            x.spread(7, 1);
+            x.image(box);
+        }
+        x.run(9);
+        for (int box = 0; box < 3; box++) {
+            for (int i = 0; i < 8; i++) {
+                x.spread(i, 3);
+            }
+            due("back", x.back(box), 0);
+            for (int i = 0; i < 8; i++) {
+                due("SALT of " + i, x.yard(i, 3), i == 7 ? 28 + box : 20 + i);
+                due("the last LAYER of " + i, x.warm(i, 4), i);
+            }
+            due("the store", x.about(5), 999 - 188 - box - 1);
+        }
     }
 
     private static int[] has(WhiteRoads x) {

@@ -101,7 +101,8 @@ public final class StepTest {
         due("spread(0, 99)", x.spread(0, 99), 51);
         due("spread(0, 52)", x.spread(0, 52), NONE);
         has("99 spread", x, 0, 0, 0, 99);
-        due("spread(0, 51)", x.spread(0, 51), 0);
+        due("spread(0, 1)", x.spread(0, 1), 50);
+        due("spread(0, 50)", x.spread(0, 50), 0);
         due("spread(0, 1)", x.spread(0, 1), NONE);
         has("150 spread", x, 0, 0, 0, 150);
     }
@@ -248,6 +249,13 @@ public final class StepTest {
         // 1980 / 12 is 165, but -80 is the least: (-80 + 90) / 2 could freeze, 2 are there
         has("-80 at least", x, 0, 0, 2, 198);
         warm("freezing at -80", x, -86);
+        for (int cold = 90; cold <= 91; cold++) {
+            x = Check.told(yard("road", 0, 0, "-" + cold) + hour(9, -cold, 10));
+            x.spread(0, 99);
+            x.spread(0, 99);
+            x.run(1);
+            has("(-80 + " + cold + ") / 2 freeze", x, 4, 0, 5, 198);
+        }
         x = Check.told(yard("road", 0, 0, "-80") + hour(2, -80, 5));
         x.spread(0, 99);
         x.run(1);
@@ -317,6 +325,12 @@ public final class StepTest {
         due("990 is not BLOCKED", x.yard(0, 5), 0);
         x.run(1);
         due("1980 is BLOCKED", x.yard(0, 5), 1);
+        x = Check.told(yard("road", 37, 0, "-100") + hour(27, -100, 0));
+        x.run(1);
+        due("999 is not BLOCKED", x.yard(0, 5), 0);
+        x = Check.told(yard("road", 40, 0, "-100") + hour(25, -100, 0));
+        x.run(1);
+        due("1000 is BLOCKED", x.yard(0, 5), 1);
         x = Check.told(yard("road", 0, 0, "-100") + hour(99, -100, 0));
         x.run(144);
         due("no slope is never BLOCKED", x.yard(0, 5), 0);

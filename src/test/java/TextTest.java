@@ -70,6 +70,20 @@ public final class TextTest {
         due("end(9)", x.end(9), NONE);
         due("land of the first 8", x.land(), 0);
         due("its store", x.about(5), 7);
+        // what was cut off is not read, though a word or number would go on in it
+        x.feed(0x73746f72, 0x65203737, 0x3b3b3b3b, 0, 0);
+        x.end(7);
+        due("cut within the N", x.land(), NONE);
+        due("no sign behind 7", x.fault(0), 2);
+        due("at the end", x.fault(1), 7);
+        x.feed(0x73746f72, 0x65203737, 0x3b3b3b3b, 0, 0);
+        x.end(4);
+        due("cut within the word", x.land(), NONE);
+        due("no such word", x.fault(1), 0);
+        x.feed(0x73746f72, 0x65203761, 0x3b3b3b3b, 0, 0);
+        x.end(7);
+        due("cut behind the N", x.land(), NONE);
+        due("no letter behind it", x.fault(1), 7);
         x.feed(0x73746f72, 0x65203720, 0, 0, 0);
         x.end(8);
         x.feed(0x303b2020, 0x20202020, 0x20202020, 0x20202020, 0x20202020);
@@ -91,7 +105,9 @@ public final class TextTest {
         x.run(5);
         x.spread(0, 20);
         x.read(0, 0, 0, 99, 0);
-        x.image(1);
+        for (int box = 0; box < 3; box++) {
+            x.image(box);
+        }
         x.round(3, 5, 0);
         due("order", x.about(10), 2);
         due("left by the GLASS", x.left(9), 0);
@@ -101,7 +117,9 @@ public final class TextTest {
         due("store untold", x.about(5), 999);
         due("no GLASSES", x.about(6), 0);
         due("left", x.left(9), 1);
-        due("no BOX", x.back(1), NONE);
+        for (int box = 0; box < 3; box++) {
+            due("no BOX", x.back(box), NONE);
+        }
         due("no order", x.about(10), 0);
         due("no order", x.lies(0), NONE);
         due("TIME stays", x.about(7), 4);
@@ -110,6 +128,10 @@ public final class TextTest {
         due("no SALT", x.yard(0, 3), 0);
         due("no SNOW", x.yard(0, 1), 0);
         due("warm", x.warm(0, 0), 0);
+        Check.tell(x, TWO_YARDS + "call 5;harm 7;slip 0 weight 1;");
+        Check.tell(x, "yard a road slope 0 traffic 0 warm -10;hour fall 9 temp -10 wet 0;slip 0 weight 1;");
+        due("call and harm are 0 again: the STEP", x.plan(1, 0, 0, 4), 0);
+        due("call and harm are 0 again: the cost", x.plan(1, 0, 1, 4), 0);
         due("an empty LAND", x.land(), 0);
         due("yards", x.about(0), 0);
     }
@@ -153,6 +175,7 @@ public final class TextTest {
         good(" \n ", 0);
         good("yard a grass slope 99 traffic 99 warm -200 200-0 - 5 0007;", 1);
         good("yard abcdefgh roof slope0 traffic0 warm0;", 1);
+        good("yard a road slope 0 traffic 0 warm 0 -200 200 - 200 200;", 1);
         good("yard line bridge slope 0 traffic 0 warm 1;yard land road slope 0 traffic 0 warm 1;"
             + "yard sort road slope 0 traffic 0 warm 1;way sort land takes 60;", 3);
         good("slip 50 weight 99;slip -50 weight 1;slip - 5 weight 2;slip 5 weight 2;call 9999;harm 0;store 0;", 0);
@@ -228,6 +251,8 @@ public final class TextTest {
             fault("depot " + word, 2, 6);
         }
         fault("yard a lane", 2, 7);
+        fault("yard a slope 0", 2, 7);
+        fault("yard a store", 2, 7);
         fault("yard a traffic 0", 2, 7);
         fault("yard a road traffic 0", 2, 12);
         fault("yard a road slope -0", 2, 18);
@@ -272,6 +297,7 @@ public final class TextTest {
         fault("yard a road slope 0 traffic 0 warm 201", 4, 35);
         fault("yard a road slope 0 traffic 0 warm -201", 4, 35);
         fault("yard a road slope 0 traffic 0 warm 5 - 201", 4, 37);
+        fault("yard a road slope 0 traffic 0 warm 5 201", 4, 37);
         fault("yard a road slope 0 traffic 0 warm 5 5 5 5 9999 5", 4, 43);
         fault(TWO_YARDS + "way a b takes 0", 4, TWO_YARDS.length() + 14);
         fault(TWO_YARDS + "way a b takes 61", 4, TWO_YARDS.length() + 14);

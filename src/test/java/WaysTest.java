@@ -75,6 +75,9 @@ public final class WaysTest {
         lies(x, 1, 2);
         x.shift(50);
         due("by SHIFT 0", x.round(6, 30, 0), 1);
+        x = Check.told(road("a", 0, -10) + "depot a;" + SHORT_FALL.replace("-10", "8"));
+        due("a tenth more would do", x.when(0, 1), NONE);
+        due("by SHIFT 0", x.round(1, 0, 0), 1);
     }
 
     private static void leastMinutesThenFirst() {
@@ -147,9 +150,9 @@ public final class WaysTest {
             due("SALT 28 behind " + takes + " minutes", x.round(2, 28, 0), takes < 30 ? 0 : 1);
         }
         // WHITE at the last STEP, and the last one is come to behind 780 minutes: salted behind STEP 71 all the same
-        StringBuilder star = new StringBuilder(road("a", 0, 0));
+        StringBuilder star = new StringBuilder(road("a", 0, -10));
         for (char c = 'b'; c <= 'h'; c++) {
-            star.append(road("" + c, 0, 0)).append("way a ").append(c).append(" takes 60;");
+            star.append(road("" + c, 0, -10)).append("way a ").append(c).append(" takes 60;");
         }
         star.append("depot a;").append("hour fall 0 temp -10 wet 0;".repeat(11)).append("hour fall 1 temp -10 wet 0;");
         WhiteRoads x = Check.told(star.toString());
@@ -157,6 +160,9 @@ public final class WaysTest {
         due("WHITE at the last STEP", x.when(7, 0), 72);
         due("salted in time", x.round(254, 99, 0), 0);
         due("minutes", x.round(254, 99, 1), 780);
+        // 23 would do behind STEP 70, not behind STEP 71
+        due("how late 23 can be", x.latest(7, 0, 23), 70);
+        due("salted behind STEP 71", x.round(254, 23, 0), 1);
     }
 
     private static void open() {
@@ -214,6 +220,11 @@ public final class WaysTest {
         x = Check.told(text + "way a b takes 60;way a c takes 30;");
         due("at 720 minutes", x.open(1, 0, 0), 720);
         due("from STEP 71 on", x.open(1, 0, 71), 60);
+        x = Check.told(text.replace("hill takes 60", "hill takes 1") + "way a b takes 60;");
+        x.run(6);
+        due("721 minutes are too many", x.open(1, 0, 0), NONE);
+        due("601 minutes", x.open(1, 0, 12), 601);
+        x = Check.told(text + "way a b takes 60;");
         due("far behind STEP 72", x.open(2, 0, 71), 120);
     }
 }

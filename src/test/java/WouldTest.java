@@ -85,6 +85,8 @@ public final class WouldTest {
         due("with what is spread already", x.least(0, 0), 11);
         x = Check.told(ROAD + "hour fall 9 temp -200 wet 0;");
         due("99 are not enough", x.least(0, 0), NONE);
+        x = Check.told("yard a road slope 0 traffic 0 warm 0;hour fall 4 temp -27 wet 0;hour fall 0 temp -10 wet 0;");
+        due("99 are just enough", x.least(0, 0), 99);
     }
 
     private static void latest() {
@@ -166,6 +168,12 @@ public final class WouldTest {
         x = Check.told(ROAD + SHORT_FALL + "slip 0 weight 7;slip -9 weight 5;");
         due("for certain, upper part", x.odds(0, 0, 0), 1);
         due("for certain, lower part", x.odds(0, 1, 0), 1);
+        x = Check.told(ROAD + SHORT_FALL + "slip 0 weight 7;call 5;harm 6;");
+        x.spread(0, 20);
+        due("1 would be enough", x.least(0, 0), 1);
+        due("but none is spread", x.odds(0, 0, 0), 1);
+        planned("it is called for 1", x, 1, 1, 0, 0, 5, 1);
+        planned("none is spread", x, 1, 0, 0, NONE, 6, 1);
     }
 
     private static void planned(String what, WhiteRoads x, int yards, int salt, int k, int... due) {
@@ -219,6 +227,7 @@ public final class WouldTest {
         String bridge = "yard a bridge slope 0 traffic 8 warm -28;hour fall 1 temp -14 wet 3;"
             + "hour fall 2 temp -23 wet 4;hour fall 0 temp -2 wet 0;slip 0 weight 1;harm 5;";
         planned("not too early", Check.told(bridge), 1, 78, 0, 4, 0, 1);
+        planned("though it costs but 1", Check.told(bridge.replace("harm 5", "harm 1")), 1, 78, 0, 4, 0, 1);
         String dry = "hour fall 0 temp -14 wet 0;".repeat(4);
         // thrown off until it falls: SALT has to come late, but behind STEP 24 at the latest
         String late = "yard a road slope 0 traffic 19 warm -14;" + dry
@@ -226,6 +235,9 @@ public final class WouldTest {
         WhiteRoads x = Check.told(late);
         due("the latest is later", x.latest(0, 0, 50), 28);
         planned("late enough", x, 1, 50, 0, 22, 0, 1);
+        planned("at the last STEP to call", x, 1, 33, 0, 24, 0, 1);
+        due("only later", x.latest(0, 0, 30), 25);
+        planned("too late to call", x, 1, 30, 0, 0, 5, 1);
     }
 
     /** The same question behind each change of what there is. */
