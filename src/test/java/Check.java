@@ -23,18 +23,20 @@ final class Check {
         }
     }
 
+    /** A text as numbers for feed, five a call; bytes of 0 fill the last call. */
+    static int[] numbers(String text) {
+        int[] n = new int[(text.length() + 19) / 20 * 5];
+        for (int i = 0; i < text.length(); i++) {
+            n[i / 4] |= (text.charAt(i) & 255) << 24 - i % 4 * 8;
+        }
+        return n;
+    }
+
     /** Puts a text on the TAPE, which must be empty. */
     static void put(WhiteRoads roads, String text) {
-        byte[] bytes = new byte[(text.length() + 19) / 20 * 20];
-        for (int i = 0; i < text.length(); i++) {
-            bytes[i] = (byte) text.charAt(i);
-        }
-        for (int i = 0; i < bytes.length; i += 20) {
-            int[] n = new int[5];
-            for (int j = 0; j < 20; j++) {
-                n[j / 4] = n[j / 4] << 8 | bytes[i + j] & 255;
-            }
-            roads.feed(n[0], n[1], n[2], n[3], n[4]);
+        int[] n = numbers(text);
+        for (int i = 0; i < n.length; i += 5) {
+            roads.feed(n[i], n[i + 1], n[i + 2], n[i + 3], n[i + 4]);
         }
         roads.end(text.length());
     }

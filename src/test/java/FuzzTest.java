@@ -6,15 +6,18 @@ import java.util.Random;
 
 /** Random runs of calls on a WhiteRoads and on a Plain, whose answers must be the same. */
 public final class FuzzTest {
-    private static final int RUNS = 400;
+    private static final int RUNS = 1500;
     private static final String[] SORTS = {"grass", "road", "bridge", "roof"};
 
     private final Random random;
     private final WhiteRoads roads = new WhiteRoads();
     private final Plain plain = new Plain();
     private final List<String> trail = new ArrayList<>();
+    private String text = "";
     private int calls = 0;
     private int yards = 0;
+    /** The first answer that is not as due. */
+    private String wrong = null;
     /** How far outside of what can be the arguments go: mostly not at all. */
     private boolean wild;
 
@@ -47,14 +50,12 @@ public final class FuzzTest {
         if (yards == 0) {
             tell(text());
         }
-        int most = 20 + random.nextInt(120);
-        while (calls < most && last == null) {
+        int most = calls + 20 + random.nextInt(200);
+        while (calls < most && wrong == null) {
             step();
         }
-        return last;
+        return wrong;
     }
-
-    private String last = null;
 
     private int call(String name, Object... args) throws Exception {
         calls++;
@@ -65,29 +66,20 @@ public final class FuzzTest {
         Object got = a.invoke(roads, args);
         Object due = b.invoke(plain, args);
         trail.add(name + Arrays.toString(args) + " = " + due);
-        if (!got.equals(due) && last == null) {
+        if (!got.equals(due) && wrong == null) {
             int from = Math.max(0, trail.size() - 12);
-            last = name + Arrays.toString(args) + " answered " + got + ", due is " + due + " behind " + text
+            wrong = name + Arrays.toString(args) + " answered " + got + ", due is " + due + " behind " + text
                 + "\n" + trail.subList(from, trail.size());
         }
         return due instanceof Integer i ? i : ((Boolean) due) ? 1 : 0;
     }
 
-    private String text = "";
-
     private void tell(String told) throws Exception {
         text = told.length() > 1700 ? told.substring(0, 1700) : told;
         call("end", 0);
-        byte[] bytes = new byte[(text.length() + 19) / 20 * 20];
-        for (int i = 0; i < text.length(); i++) {
-            bytes[i] = (byte) text.charAt(i);
-        }
-        for (int i = 0; i < bytes.length; i += 20) {
-            int[] n = new int[5];
-            for (int j = 0; j < 20; j++) {
-                n[j / 4] = n[j / 4] << 8 | bytes[i + j] & 255;
-            }
-            call("feed", n[0], n[1], n[2], n[3], n[4]);
+        int[] n = Check.numbers(text);
+        for (int i = 0; i < n.length; i += 5) {
+            call("feed", n[i], n[i + 1], n[i + 2], n[i + 3], n[i + 4]);
         }
         call("end", text.length());
         call("land");
